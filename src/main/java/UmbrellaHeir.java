@@ -50,10 +50,8 @@ public final class UmbrellaHeir {
     private static final int NOT_SO = 5;
     private static final int THERE_IS_NONE = 6;
 
-    private final byte[] tape = new byte[MOST_BYTES];
-    private int taped = 0;
     private County county = new County();
-    private final Reader reader = new Reader(tape);
+    private final Reader reader = new Reader();
     private int faultNumber = 0;
     private int faultPlace = 0;
     private int refusal = NOT_REFUSED;
@@ -75,22 +73,21 @@ public final class UmbrellaHeir {
     // ---- the county
 
     public int feed(int a, int b, int c, int d, int e) {
-        if (taped + 20 > MOST_BYTES) {
+        if (reader.taped + 20 > MOST_BYTES) {
             return NONE;
         }
-        putNumber(a);
-        putNumber(b);
-        putNumber(c);
-        putNumber(d);
-        putNumber(e);
-        return taped;
+        reader.putNumber(a);
+        reader.putNumber(b);
+        reader.putNumber(c);
+        reader.putNumber(d);
+        reader.putNumber(e);
+        return reader.taped;
     }
 
     public int county(int n) {
-        if (n < 0 || n > taped) {
+        if (n < 0 || n > reader.taped) {
             return refuse(BAD_NUMBER);
         }
-        taped = 0;
         boolean fine = reader.read(n);
         faultNumber = reader.fault;
         faultPlace = reader.start;
@@ -687,7 +684,7 @@ public final class UmbrellaHeir {
             case 9:
                 return markCount;
             case 10:
-                return taped;
+                return reader.taped;
             default:
                 return NONE;
         }
@@ -758,13 +755,6 @@ public final class UmbrellaHeir {
     }
 
     // ---- what the calls share
-
-    private void putNumber(int number) {
-        for (int shift = 24; shift >= 0 && taped < MOST_BYTES; shift -= 8) {
-            tape[taped] = (byte) (number >> shift);
-            taped++;
-        }
-    }
 
     /** Keeps NOW for an undo; the oldest goes where there are too many. */
     private void keep() {
@@ -846,10 +836,11 @@ public final class UmbrellaHeir {
         final int[] day;
 
         Dated(int most) {
-            what = new int[most];
-            one = new int[most];
-            other = new int[most];
-            day = new int[most];
+            int room = Math.max(most, 0);
+            what = new int[room];
+            one = new int[room];
+            other = new int[room];
+            day = new int[room];
         }
 
         boolean isFull() {
@@ -1312,7 +1303,9 @@ public final class UmbrellaHeir {
         int fault = 0;
         /** The place of the TOKEN that is looked at: behind a fault, the fault's place. */
         int start = 0;
-        private final byte[] text;
+        /** How many bytes THE TAPE has. */
+        int taped = 0;
+        private final byte[] tape = new byte[MOST_BYTES];
         private int length = 0;
         private int next = 0;
         private int token = END;
@@ -1325,13 +1318,19 @@ public final class UmbrellaHeir {
         private final long[] personNames = new long[MOST_PEOPLE];
         private final long[] umbrellaNames = new long[MOST_UMBRELLAS];
 
-        Reader(byte[] tape) {
-            text = tape;
+        /** Four bytes come behind the tape, the highest first. */
+        void putNumber(int number) {
+            for (int shift = 24; shift >= 0 && taped < MOST_BYTES; shift -= 8) {
+                tape[taped] = (byte) (number >> shift);
+                taped++;
+            }
         }
 
+        /** Reads the first bytes of the tape, which is empty then; whether they are a county without a fault. */
         boolean read(int many) {
             fault = 0;
-            length = Math.min(many, text.length);
+            length = Math.min(many, taped);
+            taped = 0;
             next = 0;
             countyTold = false;
             county.clear();
@@ -1365,12 +1364,12 @@ public final class UmbrellaHeir {
         // -- tokens
 
         private void readToken() {
-            while (next < length && text[next] == ' ') {
+            while (next < length && tape[next] == ' ') {
                 next++;
             }
             start = next;
             value = 0;
-            token = next < length ? tokenBegunBy(text[next]) : END;
+            token = next < length ? tokenBegunBy(tape[next]) : END;
             if (token == SEMICOLON) {
                 next++;
             } else if (token == WORD) {
@@ -1382,8 +1381,8 @@ public final class UmbrellaHeir {
 
         /** All letters, or digits, that stand together: if they are too many, they are no TOKEN. */
         private void readRun(int base, int zero, int longest) {
-            while (next < length && tokenBegunBy(text[next]) == token) {
-                value = value * base + (text[next] - zero);
+            while (next < length && tokenBegunBy(tape[next]) == token) {
+                value = value * base + (tape[next] - zero);
                 next++;
             }
             token = next - start <= longest ? token : NO_TOKEN;

@@ -91,6 +91,8 @@ final class ActsTest {
         checks.fine(x, "the fourth dry day", x.day(false), 0);
         checks.due("four dry days", x.size(7), 4);
         checks.fine(x, "rain: b and c are ann's", x.day(true), 2);
+        x.lend(Counties.A, Counties.BOB);
+        checks.fine(x, "rain: a is bob's", x.day(true), 1);
         checks.due("no dry day behind rain", x.size(7), 0);
         UmbrellaHeir none = new UmbrellaHeir();
         checks.refused(none, "day of nothing", none.day(true), 1);
@@ -127,6 +129,13 @@ final class ActsTest {
         }
         checks.refused(x, "the 17th", x.undo(), 6);
         checks.due("as behind the second", x.umbrella(Counties.A, 3), Counties.KID);
+        for (int i = 0; i < 20; i++) {
+            x.day(false);
+        }
+        for (int i = 19; i >= 4; i--) {
+            checks.fine(x, "undo a dry day", x.undo());
+            checks.due("as many dry days", x.size(7), i);
+        }
     }
 
     /** Promises 46 and 47. */
@@ -173,6 +182,10 @@ final class ActsTest {
         checks.due("led(1)", x.led(1), Counties.D);
         checks.noSuch("led(2)", () -> x.led(2));
         checks.noSuch("led(-1)", () -> x.led(-1));
+        x.leave(Counties.A);
+        checks.due("led(0), the very first", x.led(0), Counties.A);
+        checks.due("led(2)", x.led(2), Counties.D);
+        x.leave(Counties.A);
         checks.noSuch("led of the highest", () -> x.led(Integer.MAX_VALUE));
         checks.due("trouble of leave stays", x.trouble(), 5);
         UmbrellaHeir none = new UmbrellaHeir();

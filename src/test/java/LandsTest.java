@@ -181,6 +181,13 @@ final class LandsTest {
         checks.refused(x, "untitled, -1 years", x.untitled(0, -1), 2);
         x.untitled(65536, 60);
         checks.due("60 years are fine", x.trouble(), 0);
+        // The first year's third draw from seed 0 is 52 of a hundred, and it lends the only one to the only one.
+        UmbrellaHeir dry = Checks.told("county lapse 9 gust 0 rains 52;person p plain;umbrella u cotton lands 8 ribs 4");
+        checks.fine(dry, "52 isn't below 52", dry.century(0, 0, 1), 0);
+        checks.fine(dry, "it stays nobody's", dry.untitled(0, 1), 1);
+        UmbrellaHeir wet = Checks.told("county lapse 9 gust 0 rains 53;person p plain;umbrella u cotton lands 8 ribs 4");
+        checks.fine(wet, "52 is below 53", wet.century(0, 0, 1), 8);
+        checks.fine(wet, "it is somebody's", wet.untitled(0, 1), 0);
         UmbrellaHeir none = new UmbrellaHeir();
         checks.refused(none, "century of nothing", none.century(0, 0, 61), 1);
         checks.refused(none, "untitled of nothing", none.untitled(-1, 0), 1);

@@ -114,6 +114,8 @@ final class LogTest {
         checks.fine(y, "longest is one person's", y.longest(0), 31);
         checks.fine(y, "y is one person's all along", y.longest(1), 41);
         checks.fine(y, "passed of y", y.passed(1), 1);
+        UmbrellaHeir there = Checks.told(PAIR + ";rain day 0;changed x y day 0;changed x y day 1;rain day 1");
+        checks.fine(there, "there on day 0 and back on day 1", there.passed(0), 2);
     }
 
     private void careless() {
@@ -127,6 +129,9 @@ final class LogTest {
         checks.due("the title is his by rain ahead of that", x.titleOf(2, 1), 0);
         UmbrellaHeir plain = Checks.told("county lapse 5 gust 0 rains 0;person c plain;umbrella u silk lands 4 ribs 4 with c;umbrella v silk lands 3 ribs 4 with c");
         checks.due("others leave none", plain.hasIt(1, 40), 0);
+        UmbrellaHeir first = Checks.told("county lapse 5 gust 0 rains 0;person c careless;umbrella u silk lands 3 ribs 4 with c;umbrella v silk lands 3 ribs 4 with c");
+        checks.due("the very first one is left", first.hasIt(0, 0), -2);
+        checks.due("the other stays", first.hasIt(1, 40), 0);
     }
 
     /** Promise 16. */
@@ -139,6 +144,12 @@ final class LogTest {
         checks.fine(wrong, "the first that isn't so, as told", wrong.judge(), 1);
         UmbrellaHeir later = Checks.told(LOG + ";claims kid s day 40;claims cal u day 3");
         checks.fine(later, "by telling, not by days", later.judge(), 0);
+        UmbrellaHeir six = Checks.told(PAIR + ";claims a x day 0".repeat(5) + ";claims b y day 40");
+        checks.fine(six, "six that are so", six.judge(), -2);
+        checks.fine(six, "ways of six that are so: no rain makes another title", six.ways(), 42);
+        UmbrellaHeir last = Checks.told(PAIR + ";claims a x day 0".repeat(5) + ";claims a y day 40");
+        checks.fine(last, "the sixth isn't so", last.judge(), 5);
+        checks.fine(last, "and can't be", last.ways(), 0);
     }
 
     /** Promises 17 and 18. */
@@ -179,6 +190,14 @@ final class LogTest {
         checks.fine(three, "acts are not of the log", three.ways(), 124);
         Checks.tell(three, PAIR + ";rain day 5;claims a y day 5");
         checks.fine(three, "ways of another county", three.ways(), 6);
+        UmbrellaHeir five = Checks.told(Counties.silks(5));
+        checks.fine(five, "ways of five alike", five.ways(), 411);
+        checks.fine(five, "the first of five", five.wayAt(1), 1);
+        checks.fine(five, "the tenth pair", five.wayAt(10), 34);
+        checks.fine(five, "the last of five", five.wayAt(410), 4034);
+        Checks.tell(five, Counties.silks(5));
+        Checks.tell(five, Counties.silks(2));
+        checks.fine(five, "nothing of a county told earlier", five.ways(), 42);
     }
 
     private void refusals() {

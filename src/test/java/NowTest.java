@@ -92,6 +92,8 @@ final class NowTest {
         checks.fine(alike, "the first of like ones", alike.richest(), 0);
         UmbrellaHeir poor = Checks.told("county lapse 1 gust 0 rains 0;person p plain;umbrella u silk lands 0 ribs 4 with p");
         checks.fine(poor, "nobody has any", poor.richest(), -2);
+        UmbrellaHeir little = Checks.told(Counties.SMALL);
+        checks.fine(little, "a single land", little.richest(), 0);
         UmbrellaHeir none = new UmbrellaHeir();
         checks.refused(none, "richest of nothing", none.richest(), 1);
     }

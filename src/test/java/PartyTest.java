@@ -53,6 +53,12 @@ final class PartyTest {
         stand(x, 7, 20, 0, 1, 2);
         stand(x, 3, 10, 0, 1, -2);
         stand(x, 6, 10, -2, 0, 1);
+        UmbrellaHeir y = Checks.told("county lapse 3 gust 0 rains 0;person k child;umbrella u cotton lands 2 ribs 4 with k;umbrella v cotton lands 1 ribs 4 with k");
+        stand(y, 1, 1, 1);
+        // Six people, five umbrellas of one place but the last, of two: f has none, and stands under the last one.
+        UmbrellaHeir six = Checks.told(Counties.silks(4) + ";person e plain;person f plain;umbrella z silk lands 3 ribs 8 with e");
+        stand(six, 63, 3, 0, 1, 2, 3, 4, 4);
+        checks.fine(six, "not all without e", six.party(63 - 16), -2);
     }
 
     /** Promise 30. */
@@ -74,6 +80,7 @@ final class PartyTest {
         checks.fine(x, "kid goes with cal", x.guest(4), Counties.CAL);
         checks.fine(x, "ann and kid with cal", x.guest(5), Counties.CAL);
         checks.fine(x, "nobody else", x.guest(15), -2);
+        checks.fine(x, "ann, the first such", x.guest(2), Counties.ANN);
         checks.fine(x, "the only one else", x.guest(7), Counties.CAL);
         UmbrellaHeir narrow = Checks.told(NARROW);
         checks.fine(narrow, "not zed, for whom there is no room", narrow.guest(1), 1);
