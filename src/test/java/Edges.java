@@ -9,7 +9,8 @@ import java.util.NoSuchElementException;
 
 /**
  * Boundary cases, each on an object of its own: what a call answers, what trouble() says behind it,
- * and that nothing else has changed. Calls are written as "name argument argument", checked ones with " = answer".
+ * and that nothing else has changed. Calls are written as "name argument argument", checked ones with " = answer";
+ * "tell text" puts a text on the tape and calls county.
  */
 final class Edges {
     private static final int PROMISES = 50;
@@ -213,6 +214,9 @@ final class Edges {
     }
 
     private long ask(UmbrellaHeir x, String call) {
+        if (call.startsWith("tell ")) {
+            return Checks.tell(x, call.substring(5));
+        }
         String[] words = call.split(" ");
         Method method = face.get(words[0]);
         Object[] arguments = new Object[words.length - 1];

@@ -284,6 +284,9 @@ final class EdgesOfLands {
         edges.sentence(37, "one is lent an umbrella NOW (if he hasn't it).");
         edges.from(head + ";umbrella a silk lands 9 ribs 4 with p");
         edges.answers("most 0", 0);
+        edges.answers("mostLands 0", 9);
+        edges.answers("mostLands 1", 0);
+        edges.answers("mostLands 2", 9);
         edges.from(head + ";umbrella a silk lands 9 ribs 4 with k;umbrella b silk lands 8 ribs 4 with p");
         edges.answers("most 0", 0);
         edges.answers("most 1", 0);
@@ -291,6 +294,15 @@ final class EdgesOfLands {
 
     private void mostLandsMost() {
         edges.sentence(38, "LANDS by it then.");
+        for (int best = 0; best < 5; best++) {
+            StringBuilder text = new StringBuilder("county lapse 1 gust 0 rains 0;person p plain");
+            for (int u = 0; u < 5; u++) {
+                text.append(";umbrella ").append((char) ('a' + u)).append(" cotton lands ").append(u == best ? 1 : 0).append(" ribs 4");
+            }
+            edges.from(text.toString());
+            edges.answers("most 0", best);
+            edges.answers("mostLands 0", 1);
+        }
         edges.fromLeast();
         edges.answers("mostLands 0", 0);
         edges.fromFull();

@@ -16,6 +16,7 @@ final class EdgesOfParty {
         partyRefused();
         partyRoom();
         partyDanger();
+        partyOnlyJustBetter();
         partyOfRefused();
         partyOfNoRoom();
         partyOfNotThere();
@@ -85,6 +86,9 @@ final class EdgesOfParty {
             edges.from(Counties.silks(many), round(many));
             edges.answers("exchanges", Math.min(many - 1, 3));
         }
+        edges.from(Counties.silks(3), "exchange 0 1");
+        edges.goes("exchanges = 1", "exchange 0 1 = 1", "exchanges = 0", "exchangeAt 0 = -1", "trouble = 1", "putRight = 3", "exchange 1 2 = 1",
+            "exchange 0 1 = 1", "exchanges = 2", "exchangeAt 0 = 1", "exchangeAt 1 = 12");
         edges.from(Counties.silks(5), "exchange 0 1", "exchange 2 3");
         edges.answers("exchanges", 2);
         edges.answers("putRight", 5);
@@ -171,6 +175,31 @@ final class EdgesOfParty {
         edges.answers("party 1", 99);
         edges.from("county lapse 1 gust 0 rains 0;person a plain;umbrella u stick lands 0 ribs 4 with a");
         edges.answers("party 1", 0);
+    }
+
+    private void partyOnlyJustBetter() {
+        edges.sentence(28, "BEST: least DANGER, be it by one land only.");
+        String head = "county lapse 1 gust 0 rains 0;person a plain;person b plain;person k child";
+        edges.from(head + ";umbrella u silk lands 1 ribs 4 with b;umbrella v silk lands 1 ribs 4 with a");
+        stand(3, 0, 1, 0);
+        edges.from(head + ";umbrella u stick lands 0 ribs 4 with b;umbrella v silk lands 5 ribs 4 with a");
+        stand(3, 0, 1, 0);
+        edges.from(head + ";umbrella u stick lands 0 ribs 4 with b;umbrella v silk lands 5 ribs 8 with a");
+        stand(3, 0, 1, 0);
+        edges.from(head + ";umbrella u stick lands 4 ribs 4 with k;umbrella v stick lands 3 ribs 4 with k");
+        stand(4, 3, -2, -2, 1);
+        edges.from(head + ";umbrella u stick lands 4 ribs 4 with k;umbrella v stick lands 4 ribs 4 with k;umbrella w stick lands 3 ribs 8 with k");
+        stand(7, 10, 0, 2, 2);
+        edges.from(head + ";umbrella u stick lands 1 ribs 12 with k;umbrella v stick lands 0 ribs 12 with k");
+        stand(7, 0, 1, 1, 1);
+        stand(5, 0, 1, -2, 1);
+    }
+
+    private void stand(int people, int danger, int... under) {
+        edges.answers("party " + people, danger);
+        for (int p = 0; p < under.length; p++) {
+            edges.answers("partyOf " + people + " " + p, under[p]);
+        }
     }
 
     private void partyOfRefused() {

@@ -23,6 +23,7 @@ final class EdgesOfText {
         numberOfBytes();
         firstBytes();
         afresh();
+        nothingOfEarlierOnes();
         faultOfLatest();
         placeOfFault();
         longestText();
@@ -46,6 +47,7 @@ final class EdgesOfText {
         secondCounty();
         formAtEnd();
         formInside();
+        formLeftOut();
         firstFromLeft();
         leastNumber();
         lacksAtEnd();
@@ -195,6 +197,23 @@ final class EdgesOfText {
         edges.due("MARKS begin anew", x.mark(), 0);
     }
 
+    private void nothingOfEarlierOnes() {
+        edges.sentence(3, "are the COUNTY from now on: nothing of those told earlier, with a FAULT or without.");
+        String five = Counties.silks(5) + ";rain day 3;claims a w day 3";
+        edges.from(five, "ways", "tell " + Counties.FULL, "ways", "wayAt 0", "exchange 0 1", "mark", "tell " + five, "ways", "exchanges");
+        for (int many = 1; many <= 5; many++) {
+            edges.good(Counties.silks(many), many);
+        }
+        edges.good(Counties.LEAST, 1);
+        edges.good(SMALL + ";rain day 0", 1);
+        edges.fromNew("tell " + Counties.FULL + ";", "tell " + Counties.FULL + ";person");
+        edges.good(Counties.LEAST, 1);
+        edges.good(SMALL + ";rain day 0;claims p u day 0", 1);
+        edges.faulty(HEAD + "^", 6);
+        edges.faulty(HEAD + ";person p plain^", 6);
+        edges.faulty("^person p plain", 6);
+    }
+
     private void faultOfLatest() {
         edges.sentence(4, "The FAULT of the latest county() not refused by 2; 0 without one.");
         edges.fromNew();
@@ -333,6 +352,8 @@ final class EdgesOfText {
         edges.goes("size 0 = 30", "size 1 = 99", "size 2 = 99");
         edges.fromLeast();
         edges.goes("size 0 = 1", "size 1 = 0", "size 2 = 0");
+        edges.from(SMALL.replace("lapse 2 gust 0 rains 0", "lapse 4 gust 5 rains 6"));
+        edges.goes("size 0 = 4", "size 1 = 5", "size 2 = 6");
         edges.fromLeast("mark", "day true");
         edges.faulty("county lapse ^0", 4);
         edges.faulty("county lapse ^00 gust 0 rains 0", 4);
@@ -452,7 +473,7 @@ final class EdgesOfText {
                 edges.faulty(PAIR + ";" + ahead + " day 7;claims p u day 0;" + behind + " day ^6", 4);
             }
         }
-        edges.faulty(PAIR + ";rain day 1;rain day 0".replace("day 0", "day ^0"), 4);
+        edges.faulty(PAIR + ";rain day 1;rain day ^0", 4);
         edges.faulty(PAIR + ";rain day 40;rain day ^39", 4);
         edges.good(PAIR + ";rain day 40;rain day 40", 2);
         edges.good(PAIR + ";claims p u day 40;rain day 0", 2);
@@ -622,6 +643,46 @@ final class EdgesOfText {
         edges.faulty("^foo", 1);
         edges.faulty(PAIR + ";^foo", 1);
         edges.faulty(PAIR + ";^rains day 1", 1);
+    }
+
+    private void formLeftOut() {
+        edges.sentence(3, "1 FORM: TOKEN with which no COUNTY goes on: a WORD, or WORD and WHOLE, that must stand there is left out.");
+        edges.fromNew();
+        edges.faulty("county ^2 gust 0 rains 0;person p plain", 1);
+        edges.faulty("county ^gust 0 rains 0;person p plain", 1);
+        edges.faulty("county lapse ^gust 0 rains 0;person p plain", 1);
+        edges.faulty("county lapse 2 ^0 rains 0;person p plain", 1);
+        edges.faulty("county lapse 2 ^rains 0;person p plain;umbrella u silk lands 1 ribs 4", 1);
+        edges.faulty("county lapse 2 gust ^rains 0;person p plain;umbrella u silk lands 1 ribs 4", 1);
+        edges.faulty("county lapse 2 gust 0 ^0;person p plain", 1);
+        edges.faulty("county lapse 2 gust 0 ^;person p plain;umbrella u silk lands 1 ribs 4", 1);
+        edges.faulty("county ^;person p plain", 1);
+        edges.faulty(SMALL + ";person q ^;rain day 1", 1);
+        edges.faulty(SMALL + ";person plain ^;rain day 1", 1);
+        edges.faulty(SMALL + ";umbrella v ^lands 1 ribs 4", 1);
+        edges.faulty(SMALL + ";umbrella silk ^lands 1 ribs 4", 1);
+        edges.faulty(SMALL + ";umbrella v silk ^1 ribs 4", 1);
+        edges.faulty(SMALL + ";umbrella v silk ^ribs 4", 1);
+        edges.faulty(SMALL + ";umbrella v silk lands ^ribs 4", 1);
+        edges.faulty(SMALL + ";umbrella v silk lands 1 ^4", 1);
+        edges.faulty(SMALL + ";umbrella v silk lands 1 ^with p", 1);
+        edges.faulty(SMALL + ";umbrella v silk lands 1 ^;rain day 1", 1);
+        edges.faulty(SMALL + ";umbrella v silk lands 1 ribs ^with p", 1);
+        edges.faulty(SMALL + ";umbrella v silk ^with p", 1);
+        edges.faulty(SMALL + ";lent u p ^1", 1);
+        edges.faulty(SMALL + ";lent u p ^;rain day 1", 1);
+        edges.faulty(SMALL + ";left u ^1", 1);
+        edges.faulty(SMALL + ";left u ^;rain day 1", 1);
+        edges.faulty(PAIR + ";changed u v ^1", 1);
+        edges.faulty(SMALL + ";rain ^1", 1);
+        edges.faulty(SMALL + ";claims p u ^1", 1);
+        // A NAME left out: the next word is taken for it, and isn't told.
+        edges.faulty(SMALL + ";lent ^p day 1", 2);
+        edges.faulty(SMALL + ";lent u ^day 1", 2);
+        edges.faulty(SMALL + ";left ^day 1", 2);
+        edges.faulty(PAIR + ";changed u ^day 1", 2);
+        edges.faulty(SMALL + ";claims ^u day 1", 2);
+        edges.faulty(SMALL + ";claims p ^day 1", 2);
     }
 
     private void firstFromLeft() {
