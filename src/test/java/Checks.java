@@ -64,24 +64,12 @@ final class Checks {
         }
     }
 
-    /** Puts a text on the tape, filled up with blanks to twenties. */
     static void feed(UmbrellaHeir x, String text) {
-        byte[] bytes = new byte[(text.length() + 19) / 20 * 20];
-        for (int i = 0; i < bytes.length; i++) {
-            bytes[i] = (byte) (i < text.length() ? text.charAt(i) : ' ');
-        }
-        for (int i = 0; i < bytes.length; i += 20) {
-            x.feed(number(bytes, i), number(bytes, i + 4), number(bytes, i + 8), number(bytes, i + 12), number(bytes, i + 16));
-        }
-    }
-
-    private static int number(byte[] bytes, int at) {
-        return bytes[at] << 24 | (bytes[at + 1] & 255) << 16 | (bytes[at + 2] & 255) << 8 | bytes[at + 3] & 255;
+        Calls.feed(x, text);
     }
 
     static int tell(UmbrellaHeir x, String text) {
-        feed(x, text);
-        return x.county(text.length());
+        return (int) Calls.tell(x, text);
     }
 
     /** A new object that was told a county. */

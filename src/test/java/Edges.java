@@ -1,11 +1,8 @@
-import java.lang.reflect.InvocationTargetException;
 import java.lang.reflect.Method;
-import java.lang.reflect.Modifier;
 import java.util.ArrayList;
 import java.util.HashMap;
 import java.util.List;
 import java.util.Map;
-import java.util.NoSuchElementException;
 
 /**
  * Boundary cases, each on an object of its own: what a call answers, what trouble() says behind it,
@@ -14,11 +11,9 @@ import java.util.NoSuchElementException;
  */
 final class Edges {
     private static final int PROMISES = 50;
-    /** The answer that stands for NoSuchElementException. */
-    private static final long THROWN = Long.MIN_VALUE;
 
     private final Checks checks;
-    private final Map<String, Method> face = new HashMap<>();
+    private final Map<String, Class<?>> answers = new HashMap<>();
     private final int[] cases = new int[PROMISES + 1];
     private int promise = 0;
     private String sentence = "";
@@ -29,10 +24,8 @@ final class Edges {
 
     Edges(Checks checks) {
         this.checks = checks;
-        for (Method method : UmbrellaHeir.class.getDeclaredMethods()) {
-            if (Modifier.isPublic(method.getModifiers())) {
-                face.put(method.getName(), method);
-            }
+        for (Method method : Calls.ofFace()) {
+            answers.put(method.getName(), method.getReturnType());
         }
     }
 
@@ -53,7 +46,7 @@ final class Edges {
     /** The call isn't refused, and changes nothing. */
     void answers(String call, long want) {
         UmbrellaHeir x = fresh();
-        due(call, ask(x, call), want);
+        due(call, Calls.go(x, call), want);
         due("trouble() behind " + call, x.trouble(), 0);
         changesNothing(x, call);
     }
@@ -62,7 +55,7 @@ final class Edges {
     void refuses(String call, int trouble) {
         UmbrellaHeir x = fresh();
         int fault = x.fault();
-        due(call, ask(x, call), refusalOf(call));
+        due(call, Calls.go(x, call), refusalOf(call));
         due("trouble() behind " + call, x.trouble(), trouble);
         due("where() behind " + call, x.where(), UmbrellaHeir.NONE);
         due("fault() behind " + call, x.fault(), fault);
@@ -80,14 +73,14 @@ final class Edges {
         UmbrellaHeir x = fresh();
         int trouble = x.trouble();
         int where = x.where();
-        due(call, ask(x, call), want);
+        due(call, Calls.go(x, call), want);
         due("trouble() stays behind " + call, x.trouble(), trouble);
         due("where() stays behind " + call, x.where(), where);
         changesNothing(x, call);
     }
 
     void throwsNoSuch(String call) {
-        leavesTrouble(call, THROWN);
+        leavesTrouble(call, Calls.THROWN);
     }
 
     /** Goes steps one behind the other on one object, those with " = answer" checked. */
@@ -207,46 +200,15 @@ final class Edges {
     private void go(UmbrellaHeir x, String step) {
         int sign = step.indexOf(" = ");
         String call = sign < 0 ? step : step.substring(0, sign);
-        long got = ask(x, call);
+        long got = Calls.go(x, call);
         if (sign >= 0) {
             due(call, got, Long.parseLong(step.substring(sign + 3)));
         }
     }
 
-    private long ask(UmbrellaHeir x, String call) {
-        if (call.startsWith("tell ")) {
-            return Checks.tell(x, call.substring(5));
-        }
-        String[] words = call.split(" ");
-        Method method = face.get(words[0]);
-        Object[] arguments = new Object[words.length - 1];
-        for (int i = 0; i < arguments.length; i++) {
-            boolean flag = method.getParameterTypes()[i] == boolean.class;
-            arguments[i] = flag ? (Object) flagOf(words[i + 1]) : (Object) Integer.valueOf(words[i + 1]);
-        }
-        try {
-            Object got = method.invoke(x, arguments);
-            return got instanceof Boolean ? ((Boolean) got ? 1 : 0) : ((Number) got).longValue();
-        } catch (InvocationTargetException e) {
-            if (e.getCause() instanceof NoSuchElementException) {
-                return THROWN;
-            }
-            throw new IllegalStateException(call, e.getCause());
-        } catch (IllegalAccessException e) {
-            throw new IllegalStateException(call, e);
-        }
-    }
-
-    private static boolean flagOf(String word) {
-        if (!word.equals("true") && !word.equals("false")) {
-            throw new IllegalArgumentException(word);
-        }
-        return word.equals("true");
-    }
-
     private long refusalOf(String call) {
         String name = call.split(" ")[0];
-        if (face.get(name).getReturnType() == boolean.class) {
+        if (answers.get(name) == boolean.class) {
             return 0;
         }
         return name.equals("change") ? -1000 : name.equals("heirs") ? -100 : UmbrellaHeir.NONE;

@@ -1,10 +1,7 @@
-import java.lang.reflect.InvocationTargetException;
 import java.lang.reflect.Method;
 import java.util.ArrayList;
 import java.util.Arrays;
-import java.util.Comparator;
 import java.util.List;
-import java.util.NoSuchElementException;
 import java.util.Random;
 
 /** Random counties, whole ones and broken ones, and random calls: the class answers as the plain model does. */
@@ -15,23 +12,17 @@ final class ModelTest {
 
     private final Random random = new Random(20261118);
     private final Checks checks = new Checks("ModelTest");
-    private final List<Method> calls = new ArrayList<>();
+    private final List<Method> calls = Calls.ofFace();
 
     private ModelTest() {
-        for (Method method : UmbrellaHeir.class.getDeclaredMethods()) {
-            if (java.lang.reflect.Modifier.isPublic(method.getModifiers()) && !method.getName().equals("feed")
-                    && !method.getName().equals("county")) {
-                calls.add(method);
-            }
-        }
-        calls.sort(Comparator.comparing(Method::getName));
+        calls.removeIf(method -> method.getName().equals("feed") || method.getName().equals("county"));
     }
 
-    public static void main(String[] args) throws ReflectiveOperationException {
+    public static void main(String[] args) {
         new ModelTest().run();
     }
 
-    private void run() throws ReflectiveOperationException {
+    private void run() {
         int whole = 0;
         int[] faults = new int[7];
         for (int i = 0; i < OBJECTS; i++) {
@@ -68,15 +59,14 @@ final class ModelTest {
         checks.due("where of " + text, x.where(), model.where());
     }
 
-    private void call(UmbrellaHeir x, PlainModel model, Method method) throws ReflectiveOperationException {
+    private void call(UmbrellaHeir x, PlainModel model, Method method) {
         Class<?>[] types = method.getParameterTypes();
         Object[] arguments = new Object[types.length];
         for (int i = 0; i < types.length; i++) {
             arguments[i] = types[i] == boolean.class ? (Object) random.nextBoolean() : (Object) number(method.getName(), i);
         }
-        Method twin = PlainModel.class.getDeclaredMethod(method.getName(), types);
         String text = method.getName() + Arrays.toString(arguments);
-        checks.due(text, answer(method, x, arguments), answer(twin, model, arguments));
+        checks.due(text, Calls.ask(x, method, arguments), Calls.ask(model, Calls.twinOf(method), arguments));
         checks.due("trouble behind " + text, x.trouble(), model.trouble());
     }
 
@@ -104,22 +94,6 @@ final class ModelTest {
             return random.nextInt(12);
         }
         return call.startsWith("rest") || call.equals("heirs") && i == 0 ? random.nextInt(20) : random.nextInt(6);
-    }
-
-    private static long answer(Method method, Object on, Object[] arguments) throws ReflectiveOperationException {
-        method.setAccessible(true);
-        try {
-            Object got = method.invoke(on, arguments);
-            if (got instanceof Boolean) {
-                return (Boolean) got ? 1 : 0;
-            }
-            return ((Number) got).longValue();
-        } catch (InvocationTargetException e) {
-            if (e.getCause() instanceof NoSuchElementException) {
-                return Long.MIN_VALUE;
-            }
-            throw e;
-        }
     }
 
     // ---- texts
