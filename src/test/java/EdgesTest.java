@@ -11,6 +11,7 @@ final class EdgesTest {
         new EdgesOfParty(edges).all();
         new EdgesOfLands(edges).all();
         new EdgesOfActs(edges).all();
+        new EdgesOfUse(edges).all();
         edges.end();
     }
 }
