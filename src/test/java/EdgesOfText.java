@@ -23,6 +23,7 @@ final class EdgesOfText {
         numberOfBytes();
         firstBytes();
         afresh();
+        countyStays();
         nothingOfEarlierOnes();
         faultOfLatest();
         placeOfFault();
@@ -195,6 +196,24 @@ final class EdgesOfText {
         edges.due("no MARK", x.back(0), false);
         edges.due("trouble of back", x.trouble(), 1);
         edges.due("MARKS begin anew", x.mark(), 0);
+    }
+
+    private void countyStays() {
+        edges.sentence(3, "NONE: 4 (the COUNTY stays).");
+        String[] acts = {"mark", "lend 0 1", "day false", "mark", "leave 1", "day true", "exchange 0 2", "mark", "undo", "ways"};
+        for (String[] steps : new String[][] {{}, acts}) {
+            for (String text : new String[] {Counties.BASE, Counties.FULL}) {
+                edges.from(text, steps);
+                edges.faulty("^", 1);
+                // All that the text tells is read already where the fault is met.
+                edges.faulty(PAIR + ";rain day 5;claims p u day 9;^", 1);
+                edges.faulty(PAIR + ";rain day 5;claims p ^x day 9", 2);
+                edges.faulty(PAIR + ";rain day 5;^county", 3);
+                edges.faulty(PAIR + ";rain day 5;rain day ^4", 4);
+                edges.faulty(PAIR + ";rain day 5".repeat(16) + ";^rain day 5", 5);
+                edges.faulty(HEAD + ";person p plain;person q child^", 6);
+            }
+        }
     }
 
     private void nothingOfEarlierOnes() {
